@@ -1,0 +1,94 @@
+/** What the tests share: counting what is wrong, telling what throws, and feeding texts. */
+final class Check {
+    /** Answers that stand for what a call threw. */
+    static final long NO_SUCH = Long.MIN_VALUE;
+    static final long WRONG = Long.MIN_VALUE + 1;
+
+    interface Call {
+        long answer();
+    }
+
+    private int checks;
+    private int wrong;
+    private String part = "";
+
+    void part(String name) {
+        part = name;
+    }
+
+    void due(String what, long want, Call call) {
+        checks++;
+        long got = answerOf(call);
+        if (got != want) {
+            wrong++;
+            System.out.println(part + ": " + what + " answered " + told(got) + ", due is " + told(want));
+        }
+    }
+
+    void noSuch(String what, Call call) {
+        due(what, NO_SUCH, call);
+    }
+
+    void wrong(String what, Call call) {
+        due(what, WRONG, call);
+    }
+
+    void end() {
+        System.out.println(checks + " answers, " + wrong + " not as due");
+        if (wrong != 0 || checks == 0) {
+            System.exit(1);
+        }
+    }
+
+    /** Any other exception goes on, and ends the test with a trace. */
+    static long answerOf(Call call) {
+        try {
+            return call.answer();
+        } catch (java.util.NoSuchElementException e) {
+            return NO_SUCH;
+        } catch (IllegalArgumentException e) {
+            return WRONG;
+        }
+    }
+
+    static String told(long answer) {
+        return answer == NO_SUCH ? "throws.NoSuchElementException"
+                : answer == WRONG ? "throws.IllegalArgumentException" : Long.toString(answer);
+    }
+
+    /** Puts a text on the TAPE, zeros behind it to whole twenties. */
+    static void feed(MoodBelfries x, String text) {
+        for (int i = 0; i < text.length(); i += 20) {
+            x.feed(number(text, i), number(text, i + 4), number(text, i + 8), number(text, i + 12),
+                    number(text, i + 16));
+        }
+    }
+
+    static int number(String text, int from) {
+        int number = 0;
+        for (int i = from; i < from + 4; i++) {
+            number = number << 8 | (i < text.length() ? text.charAt(i) & 255 : 0);
+        }
+        return number;
+    }
+
+    static int district(MoodBelfries x, String text) {
+        feed(x, text);
+        return x.district(text.length());
+    }
+
+    static int law(MoodBelfries x, String text) {
+        feed(x, text);
+        return x.law(text.length());
+    }
+
+    static int work(MoodBelfries x, String text) {
+        feed(x, text);
+        return x.work(text.length());
+    }
+
+    static int book(MoodBelfries x, String text) {
+        feed(x, text);
+        return x.book(text.length());
+    }
+}
