@@ -64,6 +64,9 @@ public final class OracleTests {
                 text("work", spoilt(work(2)));
             } else if (kind < 18) {
                 text("book", spoilt(book()));
+            } else if (kind < 24) {
+                call(new String[] {"undo", "image", "restore"}[random.nextInt(3)]);
+                call("told", random.nextInt(12));
             } else {
                 Method m = FACE.get(random.nextInt(FACE.size()));
                 if (!m.getName().equals("district") || random.nextInt(4) == 0) {

@@ -740,6 +740,8 @@ public final class PromiseTests {
         c.due("as it is pulled", 16, () -> x.pulls(0, 0));
         Check.law(x, "10 / 3 + pulled / 29 * 10");
         c.due("30 at most", 30, () -> x.pulls(0, 0));
+        Check.law(x, "10 / 3 + pulled / 30 * 10");
+        c.due("31 are too many", -1, () -> x.pulls(0, 0));
         c.due("nothing stays changed", 0, () -> x.told(11));
         Check.law(x, "50");
         Check.work(x, "pull 0;pull 0;gag 0;gag 1;gag 2;");
@@ -955,6 +957,8 @@ public final class PromiseTests {
         c.due("no house", -1, () -> none.loudest(0));
         c.due("no house", -1, () -> none.loudest(1));
         MoodBelfries x = town();
+        c.due("all alike without temper", 0, () -> x.loudest(0));
+        c.due("how much", 0, () -> x.loudest(1));
         Check.law(x, "bell * 7 + least[house, 1] * 5");
         Check.work(x, "pull 0;pull 1;");
         c.due("alike: the first", 1, () -> x.loudest(0));
@@ -1081,6 +1085,7 @@ public final class PromiseTests {
         }
         c.due("they differ", 1, () -> want[0] < want[1] && want[2] > 0 && want[2] < 20 ? 1 : 0);
         c.due("one seed", x.century(7, 30, 0, 2), () -> x.span(7, 1, 30, 0, 0, 0));
+        c.due("the bounds", x.century(7, 96, 16, 2), () -> x.span(7, 1, 96, 16, 1, 2));
         c.wrong("many 0", () -> x.span(0, 0, 1, 0, 0, 0));
         c.wrong("many 21", () -> x.span(0, 21, 1, 0, 0, 0));
         c.wrong("hours 0", () -> x.span(0, 1, 0, 0, 0, 0));
@@ -1118,7 +1123,8 @@ public final class PromiseTests {
         Check.work(x, "pull 2;bring 0;");
         c.due("refused", 1, () -> x.told(10));
         x.image();
-        Check.work(x, "steal 0;gag 2;");
+        Check.work(x, "steal 0;gag 2;bring 1;");
+        c.due("refused", 1, () -> x.told(10));
         Check.law(x, "8");
         Check.book(x, "0 1;");
         Check.feed(x, "1");
@@ -1138,6 +1144,8 @@ public final class PromiseTests {
         c.due("pulled", 0, () -> x.bell(2, 5));
         c.due("undo as in the image", 1, () -> x.undo());
         c.due("damp", 2, () -> x.told(4));
+        c.due("hour", 1, () -> x.told(3));
+        c.due("temper", 17, () -> x.temper(0, 3));
         c.due("undo as in the image", 0, () -> x.undo());
         c.due("temper", 0, () -> x.told(8));
         c.due("none", -1, () -> x.restore());
