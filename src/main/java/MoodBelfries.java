@@ -408,7 +408,7 @@ public final class MoodBelfries {
     public int loudest(int what) throws IllegalArgumentException {
         need(what >= 0 && what <= 1);
         int loudest = NONE;
-        int most = NONE;
+        int most = 0;
         for (int house = 0; house < town.told.houses; house++) {
             int temper = diary.now.temperIn(house);
             if (temper > most) {
@@ -416,7 +416,8 @@ public final class MoodBelfries {
                 loudest = house;
             }
         }
-        return what == 0 ? loudest : most;
+        // Without TEMPER there is no such HOUSE, and then NONE tells how much, too.
+        return what == 0 || loudest == NONE ? loudest : most;
     }
 
     public int deaf(int bell) throws NoSuchElementException {

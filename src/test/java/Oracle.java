@@ -918,12 +918,12 @@ public final class Oracle {
 
     public int loudest(int what) {
         need(what, 0, 1);
-        if (houses.isEmpty()) {
-            return -1;
-        }
         int best = 0;
         for (int h = 1; h < houses.size(); h++) {
             best = now.sum(h) > now.sum(best) ? h : best;
+        }
+        if (houses.isEmpty() || now.sum(best) == 0) {
+            return -1;
         }
         return what == 0 ? best : now.sum(best);
     }

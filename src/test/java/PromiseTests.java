@@ -957,14 +957,29 @@ public final class PromiseTests {
         c.due("no house", -1, () -> none.loudest(0));
         c.due("no house", -1, () -> none.loudest(1));
         MoodBelfries x = town();
-        c.due("all alike without temper", 0, () -> x.loudest(0));
-        c.due("how much", 0, () -> x.loudest(1));
+        noneIsLoudest("houses, but no temper", x);
         Check.law(x, "bell * 7 + least[house, 1] * 5");
         Check.work(x, "pull 0;pull 1;");
         c.due("alike: the first", 1, () -> x.loudest(0));
         c.due("how much", 17, () -> x.loudest(1));
+        x.undo();
+        noneIsLoudest("undone", x);
+        Check.law(x, "house / 2");
+        Check.work(x, "pull 0;");
+        c.due("the last alone", 2, () -> x.loudest(0));
+        c.due("the least there is", 1, () -> x.loudest(1));
+        Check.work(x, "hour;");
+        noneIsLoudest("gone by an hour", x);
+        Check.law(x, "0");
+        Check.work(x, "pull 0;");
+        noneIsLoudest("pulled, but not heard", x);
         c.wrong("loudest(2)", () -> x.loudest(2));
         c.wrong("loudest(-1)", () -> x.loudest(-1));
+    }
+
+    private static void noneIsLoudest(String why, MoodBelfries x) {
+        c.due(why + ": no house", -1, () -> x.loudest(0));
+        c.due(why + ": not how much", -1, () -> x.loudest(1));
     }
 
     private static void deaf() {
