@@ -1,4 +1,3 @@
-import java.lang.reflect.InvocationTargetException;
 import java.lang.reflect.Method;
 import java.lang.reflect.Modifier;
 import java.util.ArrayList;
@@ -121,8 +120,8 @@ public final class OracleTests {
 
     private void call(String name, Object... arguments) {
         calls++;
-        long got = answer(x, name, arguments);
-        long want = answer(y, name, arguments);
+        long got = Check.call(x, name, arguments);
+        long want = Check.call(y, name, arguments);
         told.add(name + java.util.Arrays.toString(arguments) + " " + Check.told(got));
         if (got != want) {
             wrong++;
@@ -131,25 +130,6 @@ public final class OracleTests {
                 System.out.println("  " + line);
             }
             System.out.println("  the oracle's answer: " + Check.told(want));
-        }
-    }
-
-    private static long answer(Object of, String name, Object[] arguments) {
-        Class<?>[] types = new Class<?>[arguments.length];
-        java.util.Arrays.fill(types, int.class);
-        try {
-            return ((Number) of.getClass().getMethod(name, types).invoke(of, arguments)).longValue();
-        } catch (InvocationTargetException e) {
-            Class<?> thrown = e.getCause().getClass();
-            if (thrown == java.util.NoSuchElementException.class) {
-                return Check.NO_SUCH;
-            }
-            if (thrown == IllegalArgumentException.class) {
-                return Check.WRONG;
-            }
-            throw new IllegalStateException(name + " threw", e.getCause());
-        } catch (ReflectiveOperationException e) {
-            throw new IllegalStateException(e);
         }
     }
 
