@@ -655,6 +655,12 @@ public final class AskBoundTests {
             c.wrong("no houses", () -> none.span(0, 1, 1, 0, w, 0));
         }
         c.due("counted as wrong", 6, () -> y.status(1));
+        work(y, "gag 0;", 1);
+        for (int what = 0; what < 3; what++) {
+            int w = what;
+            c.due("gagged: no pull at all", 0, () -> y.span(0, 20, 96, 0, w, 1));
+            c.due("no bells: no pull at all", 0, () -> town("house 0 0;", "5").span(0, 20, 96, 16, w, 0));
+        }
         c.due("not as missing", 0, () -> y.status(0));
     }
 

@@ -7,8 +7,10 @@ import java.util.Random;
 
 /** Random runs of at most 512 calls, each answer compared with the oracle's. Seeds are fixed. */
 public final class OracleTests {
-    private static final int RUNS = 400;
-    private static final int CALLS = 512;
+    private static final int RUNS = 430;
+    /** No text is begun behind these; the longest takes 31 feeds, of which one is too many, and two calls. */
+    private static final int CALLS = 479;
+    private static final int LONGEST = 620;
 
     private final Random random;
     private final int run;
@@ -108,7 +110,8 @@ public final class OracleTests {
         return a;
     }
 
-    private void text(String name, String text) {
+    private void text(String name, String whole) {
+        String text = whole.length() > LONGEST ? whole.substring(0, LONGEST) : whole;
         for (int i = 0; i < text.length(); i += 20) {
             call("feed", Check.number(text, i), Check.number(text, i + 4), Check.number(text, i + 8),
                     Check.number(text, i + 12), Check.number(text, i + 16));
@@ -202,7 +205,7 @@ public final class OracleTests {
     private String work(int depth) {
         StringBuilder text = new StringBuilder();
         String[] words = {"pull", "pull", "pull", "crack", "gag", "steal", "bring"};
-        int bells = Math.max(1, x.told(0));
+        int bells = Math.max(1, y.told(0));
         for (int i = random.nextInt(6); i > 0; i--) {
             int kind = random.nextInt(depth > 0 ? 13 : 11);
             if (kind < 8) {
@@ -223,13 +226,13 @@ public final class OracleTests {
     /** Lines as an unknown bell of some pair would make them, but for one at times. */
     private String book() {
         StringBuilder text = new StringBuilder();
-        int houses = x.told(1);
+        int houses = y.told(1);
         int mood = random.nextInt(10);
         int loud = 1 + random.nextInt(60);
         for (int h = 0; h < houses; h++) {
             if (random.nextInt(3) == 0) {
-                int heard = x.would(loud, x.house(h, 0), Math.abs(mood - x.house(h, 1)), 0, x.told(4), 0,
-                        x.told(3) % 24, 6, h);
+                int heard = y.would(loud, y.house(h, 0), Math.abs(mood - y.house(h, 1)), 0, y.told(4), 0,
+                        y.told(3) % 24, 6, h);
                 text.append(random.nextInt(25) == 0 ? number(0, houses) : h).append(' ')
                         .append(random.nextInt(25) == 0 ? number(0, 99) : heard).append(';');
             }

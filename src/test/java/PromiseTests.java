@@ -836,9 +836,12 @@ public final class PromiseTests {
         c.due("one bell", 0, () -> x.next(1, 0));
         c.due("next(3, 5)", 3, () -> x.next(3, 5));
         c.due("next(6, 719)", 592, () -> x.next(6, 719));
-        for (int row = 1; row < 720; row++) {
-            int r = row;
-            c.due("one less by next(6, " + r + ")", x.changes(6, r) - 1, () -> x.changes(6, x.next(6, r)));
+        for (int from = 1; from < 720; from += 100) {
+            MoodBelfries y = new MoodBelfries();
+            for (int row = from; row < Math.min(720, from + 100); row++) {
+                int r = row;
+                c.due("one less by next(6, " + r + ")", y.changes(6, r) - 1, () -> y.changes(6, y.next(6, r)));
+            }
         }
         c.wrong("next(6, 720)", () -> x.next(6, 720));
         c.wrong("next(6, -1)", () -> x.next(6, -1));
@@ -1017,21 +1020,22 @@ public final class PromiseTests {
 
     private static void century() {
         c.part("promise 34");
-        MoodBelfries x = town();
-        Check.work(x, "pull 0;gag 1;");
         for (int i = 0; i < 20; i++) {
             int seed = i * 123456789 - 3;
             int hours = 1 + i * 89 / 19;
             int q = i % 17;
-            int[] want = lived(x, seed, hours, q);
+            MoodBelfries z = town();
+            Check.work(z, "pull 0;gag 1;");
+            int[] want = lived(z, seed, hours, q);
             for (int what = 0; what < 4; what++) {
                 int w = what;
                 c.due("century(" + seed + ", " + hours + ", " + q + ", " + w + ")", want[w],
-                        () -> x.century(seed, hours, q, w));
+                        () -> z.century(seed, hours, q, w));
             }
+            c.due("nothing stays changed", 1, () -> z.told(11));
+            c.due("nor the hour", 0, () -> z.told(3));
         }
-        c.due("nothing stays changed", 1, () -> x.told(11));
-        c.due("nor the hour", 0, () -> x.told(3));
+        MoodBelfries x = town();
         MoodBelfries y = new MoodBelfries();
         Check.district(y, "house 0 0;");
         c.due("without bells", 0, () -> y.century(1, 96, 16, 2));

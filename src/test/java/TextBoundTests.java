@@ -28,6 +28,7 @@ public final class TextBoundTests {
         firstFromTheLeft();
         atTheLength();
         ofOneTheLeast();
+        readAnew();
         c.end();
     }
 
@@ -418,6 +419,11 @@ public final class TextBoundTests {
         fault("district", "dampp 7;", -9, 0);
         fault("district", "dam 7;", -9, 0);
         fault("district", "ddamp 7;", -9, 0);
+        fault("district", "dampa 7;", -9, 0);
+        fault("district", "dampz 7;", -9, 0);
+        fault("district", "lamp 7;", -9, 0);
+        fault("district", "tell 0 1;", -9, 0);
+        fault("district", "mouse 0 1;", -9, 0);
         fault("district", "Damp 7;", -9, 0);
         fault("district", "damP 7;", -9, 0);
         fault("district", "dampbell 7;", -9, 0);
@@ -426,13 +432,20 @@ public final class TextBoundTests {
         fault("district", "damp` 7;", -9, 4);
         fault("district", "damp{ 7;", -9, 4);
         fault("district", "bell house deed damp;", -9, 5);
+        fault("district", "7;", -9, 0);
         fault("law", "louder", -9, 0);
+        fault("law", "cloud", -9, 0);
+        fault("law", "car", -9, 0);
         fault("law", "loudfar", -9, 0);
         fault("law", "lou", -9, 0);
         fault("law", "again", -9, 0);
         fault("law", "least(1,2)", -9, 5);
         fault("law", "most", -9, 4);
+        fault("work", "0;", -9, 0);
+        fault("work", "hour;1;", -9, 5);
+        fault("work", "again 1[0;];", -9, 8);
         fault("work", "pulls 0;", -9, 0);
+        fault("work", "bull 0;", -9, 0);
         fault("work", "hourhour;", -9, 0);
         fault("work", "bell 0;", -9, 0);
         fault("book", "house 1;", -9, 0);
@@ -508,5 +521,34 @@ public final class TextBoundTests {
         fault("law", "((((((leas", -9, 6);
         fault("work", times("again 1[", 6) + "hour again", -9, 53);
         fault("work", times("again 1[", 6) + "agai", -9, 48);
+    }
+
+    /** Nothing of an earlier text, with a FAULT or without, is left in a later one. */
+    private static void readAnew() {
+        c.part("The first n bytes of the TAPE (empty then) are the DISTRICT; Likewise the LAW, WORK, the BOOK");
+        MoodBelfries x = used();
+        c.due("six open and no end", -9, () -> Check.law(x, "((((((1"));
+        c.due("six open", 1, () -> Check.law(x, "((((((1))))))"));
+        c.due("six open and no end", -9, () -> Check.work(x, times("again 1[", 6)));
+        c.due("six open", 1, () -> Check.work(x, times("again 1[", 6) + "hour;" + times("];", 6)));
+        c.due("six open, of a law", -9, () -> Check.law(x, "most[most[most[most[most[most[1,"));
+        c.due("six open, of a work", 0, () -> Check.work(x, times("again 1[", 6) + times("];", 6)));
+        c.due("a book with a line, and a fault", -9, () -> Check.book(x, "0 5;1"));
+        c.due("a book with that line again", 1, () -> Check.book(x, "0 6;"));
+
+        MoodBelfries y = used();
+        String full = "bell 1 1;house 0 0;deed 0 0 1;damp 5;";
+        c.due("a full one", 1, () -> Check.district(y, full));
+        c.due("an empty one", 0, () -> y.district(0));
+        c.due("an empty one again", 0, () -> y.district(0));
+        c.same("an empty one", Picture.of(y), Picture.of(new MoodBelfries()));
+        c.due("a full one with a fault", -9, () -> Check.district(y, full + "?"));
+        c.due("blanks alone", 0, () -> Check.district(y, "   "));
+        c.same("blanks alone", Picture.of(y), Picture.of(new MoodBelfries()));
+        c.due("a full one with a fault", -8, () -> Check.district(y, full + times("bell 1 1;", 5) + "damp 10;"));
+        c.due("six bells", 6, () -> Check.district(y, times("bell 1 1;", 6)));
+        c.due("no houses", 0, () -> y.told(1));
+        c.due("no deeds", 0, () -> y.told(2));
+        c.due("no damp", 0, () -> y.told(4));
     }
 }
