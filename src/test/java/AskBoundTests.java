@@ -268,6 +268,16 @@ public final class AskBoundTests {
         c.due("by the 30th alone", 30, () -> z.pulls(0, 0));
         lawBy(z, "pulled / 30 * 7");
         c.due("by the 31st alone", -1, () -> z.pulls(0, 0));
+        MoodBelfries w = new MoodBelfries();
+        for (int i = 0; i < 2; i++) {
+            Check.district(w, "bell 0 60;house 0 0;deed 0 0 1;");
+        }
+        c.due("by its one bell", 1, () -> w.pulls(0, 0));
+        for (int i = 0; i < 2; i++) {
+            Check.district(w, "house 0 0;deed 0 0 1;");
+            c.due("by none of an earlier district", -1, () -> w.pulls(0, 0));
+            c.due("by none of an earlier district", -1, () -> w.pulls(0, 1));
+        }
     }
 
     private static void book(MoodBelfries x, String text, int lines) {
@@ -307,6 +317,8 @@ public final class AskBoundTests {
         work(y, "crack 0;pull 0;damp 7;hour;", 4);
         book(y, "0 68;1 68;", 2);
         c.due("60 and 7 and 1", 600, () -> y.cast(0));
+        c.due("bell 0: one crack, one pull, 7 and 1", 10, () -> y.heard(0, 0));
+        c.due("60 and 7 and 1, whatever was asked ahead", 600, () -> y.cast(0));
         book(y, "0 68;1 67;", 2);
         c.due("all lines must be right", 0, () -> y.cast(0));
         book(y, "0 67;1 68;", 2);
@@ -528,6 +540,10 @@ public final class AskBoundTests {
         work(alike, "pull 0;", 1);
         c.due("the first of alike ones", 1, () -> alike.loudest(0));
         c.due("how much", 5, () -> alike.loudest(1));
+        lawBy(alike, "(2 - house) / 2 * 6");
+        work(alike, "pull 0;", 1);
+        c.due("the first of all", 0, () -> alike.loudest(0));
+        c.due("how much", 6, () -> alike.loudest(1));
     }
 
     private static void deafAndKin() {
